@@ -749,7 +749,7 @@ public final class TowerPipers {
                 markBars(calls, c, quartersOfAStep);
                 partCount++;
             }
-            if (canFill(allParts(), 0)) {
+            if (canFill(tiedTo(before, allParts()), 0)) {
                 return true;
             }
             partCount = before;
@@ -796,11 +796,27 @@ public final class TowerPipers {
 
         private void lower(int part, int left) {
             int known = piperFor[part];
+            int tied = tiedTo(part, left);
             for (int p = 0; p < known; p++) {
-                if (isWorthTrying(p, part, left) && canGive(part, p, left, part)) {
+                if (isWorthTrying(p, part, tied) && canGive(part, p, tied, part)) {
                     return;
                 }
             }
+        }
+
+        // Parts that no chain of bars ties to a part don't feel who has it, so they need not be tried anew.
+        private int tiedTo(int part, int left) {
+            int tied = 1 << part;
+            int before = 0;
+            for (int round = 0; round < PARTS && tied != before; round++) {
+                before = tied;
+                for (int other = 0; other < partCount; other++) {
+                    if (hasBit(tied, other)) {
+                        tied |= bars[other] & left;
+                    }
+                }
+            }
+            return tied;
         }
 
         // The part with the fewest takers goes first: to go by the row would try the same
