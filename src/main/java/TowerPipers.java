@@ -788,19 +788,14 @@ public final class TowerPipers {
         void lowerAll() {
             int left = allParts();
             for (int part = 0; part < partCount; part++) {
-                lower(part, left);
+                int tied = tiedTo(part, left);
+                int known = piperFor[part];
+                boolean lowered = false;
+                for (int p = 0; p < known && !lowered; p++) {
+                    lowered = isWorthTrying(p, part, tied) && canGive(part, p, tied, part);
+                }
                 openTo[piperFor[part]] &= ~bars[part];
                 left &= ~(1 << part);
-            }
-        }
-
-        private void lower(int part, int left) {
-            int known = piperFor[part];
-            int tied = tiedTo(part, left);
-            for (int p = 0; p < known; p++) {
-                if (isWorthTrying(p, part, tied) && canGive(part, p, tied, part)) {
-                    return;
-                }
             }
         }
 

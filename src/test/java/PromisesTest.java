@@ -23,6 +23,8 @@ public final class PromisesTest {
         promise10PlayedByPieces();
         promise10PlayedIsCastAnew();
         promise11Who();
+        promise11WhoOfFullHouse();
+        promise11WhoIsTheLeastRow();
         promise12Tune();
         promise13Heard();
         promise13HeardOverDays();
@@ -31,6 +33,7 @@ public final class PromisesTest {
         promise15Day();
         promise15DayFines();
         promise15DayPaysTheOld();
+        promise15DayOfAll();
         promise15DayEnds();
         promise16Lasts();
         promise17Look();
@@ -463,6 +466,66 @@ public final class PromisesTest {
         Due.is("11 two", 1, z.who(0, 1));
     }
 
+    private static void promise11WhoOfFullHouse() {
+        TowerPipers x = new TowerPipers();
+        for (int p = 0; p < 6; p++) {
+            x.piper(1, p < 4 ? 1 : 2);
+        }
+        x.pieces(0, 3);
+        x.pieces(1, 3);
+        for (int c = 0; c < 6; c++) {
+            Due.is("11 call", c, x.call(3 - c / 2, c / 3, 4, 0, 0, 1, 0, 0));
+        }
+        // Of instrument 1 there are two who play it, so two calls at once: those of the lowest orders.
+        Due.is("11 two", 0b110000, x.played());
+        Due.is("11 who", 4, x.who(4, 0));
+        Due.is("11 who", 0, x.who(4, 1));
+        Due.is("11 who", 5, x.who(5, 0));
+        Due.is("11 who", 1, x.who(5, 1));
+        for (int c = 0; c < 6; c++) {
+            x.off(c);
+        }
+        for (int c = 0; c < 6; c++) {
+            x.call(c % 4, 10 * c, 10, 0, 0, 0, 1, 0);
+        }
+        Due.is("11 one behind another", 63, x.played());
+        for (int c = 0; c < 6; c++) {
+            Due.is("11 the same two", 0, x.who(c, 0));
+            Due.is("11 the same two", 4, x.who(c, 1));
+        }
+        Due.is("11 parts", 6, x.look(0, 3));
+        Due.word(x, "w20");
+        x.off(3);
+        x.call(3, 30, 10, 9, 0, 0, 1, 0);
+        Due.is("11 far away", 63, x.played());
+        Due.is("11 another two go", 1, x.who(3, 0));
+        Due.is("11 another two go", 5, x.who(3, 1));
+    }
+
+    private static void promise11WhoIsTheLeastRow() {
+        // The last call can only be played by piper 0, the one ahead of it then by piper 1, and so on.
+        TowerPipers x = new TowerPipers();
+        x.piper(1, 0b10001);
+        x.piper(1, 0b00011);
+        x.piper(1, 0b00110);
+        x.piper(1, 0b01100);
+        for (int i = 0; i < 3; i++) {
+            x.call(i, 0, 4, 0, 0, i, NONE, 0);
+            Due.is("11 lowest", i, x.who(i, 0));
+        }
+        x.call(3, 3, 4, 0, 0, 4, NONE, 0);
+        Due.is("11 all", 15, x.played());
+        for (int i = 0; i < 3; i++) {
+            Due.is("11 each gives way", i + 1, x.who(i, 0));
+        }
+        Due.is("11 alone can", 0, x.who(3, 0));
+        x.ill(3, true);
+        Due.is("11 nobody can give way", 7, x.played());
+        for (int i = 0; i < 3; i++) {
+            Due.is("11 as before", i, x.who(i, 0));
+        }
+    }
+
     private static void promise12Tune() {
         TowerPipers x = new TowerPipers();
         for (int wrong : new int[] {-1, 64, Integer.MIN_VALUE, Integer.MAX_VALUE}) {
@@ -729,6 +792,53 @@ public final class PromisesTest {
         Due.is("15 paid of that day's share", 100, y.wages(0));
         Due.is("15 fund", 50, y.wages(NONE));
         Due.is("15 the piper", 1350, y.wages(1));
+    }
+
+    private static void promise15DayOfAll() {
+        TowerPipers x = new TowerPipers();
+        for (int p = 0; p < 6; p++) {
+            x.piper(1, 1);
+        }
+        for (int t = 0; t < 10; t++) {
+            x.tune(63, 4095);
+        }
+        for (int c = 0; c < 6; c++) {
+            simple(x, 0, c, 1, 0);
+        }
+        Due.is("15 all calls", 6, x.count(3));
+        Due.is("15 the last tune of the day", 5, x.heard(5));
+        Due.is("15 share of the last call", 90, x.share(5, 0));
+        Due.yes("15 the last one is off", x.off(5));
+        simple(x, 0, 5, 1, 1);
+        Due.is("15 about the last one", 1, x.about(5, 5));
+        x.day();
+        Due.is("15 five shares and a fine", 5 * 90 - 50, x.wages(0));
+        Due.is("15 a fine of the last piper", -50, x.wages(5));
+        Due.is("15 five shares and six fines", 50 + 300, x.wages(NONE));
+        for (int c = 0; c < 6; c++) {
+            simple(x, 0, c, 1, 0);
+        }
+        Due.is("15 the last tune", 9, x.heard(4));
+        Due.is("15 then the first", 0, x.heard(5));
+        for (int p = 0; p < 6; p++) {
+            Due.is("15 no part", p == 0 ? 6 : 0, x.look(p, 3));
+        }
+        x.day();
+        Due.is("15 the last tune is heard", 1, x.count(39));
+        Due.is("15 the first is heard again", 1, x.count(30));
+        Due.is("15 the second is not", 0, x.count(31));
+        for (int p = 0; p < 6; p++) {
+            x.old(p);
+        }
+        Due.is("15 fund", 410, x.wages(NONE));
+        Due.is("15 no whole year", 0, x.lasts());
+        for (int d = 2; d < 360; d++) {
+            x.day();
+        }
+        Due.is("15 four are paid whole", 100 - 50, x.wages(3));
+        Due.is("15 the fifth is paid in part", 10 - 50, x.wages(4));
+        Due.is("15 the sixth has none", -50, x.wages(5));
+        Due.is("15 fund", 0, x.wages(NONE));
     }
 
     // More than 512 calls, whose answers are free by the document; here they go on being right.
