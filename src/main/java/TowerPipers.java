@@ -180,6 +180,7 @@ public final class TowerPipers {
                 fineTheWell();
             }
         }
+        now.hearTunes(tunes);
         for (int c = 0; c < CALLS; c++) {
             calls[c].go();
         }
@@ -238,7 +239,7 @@ public final class TowerPipers {
             return piecesOf[what - 20];
         }
         if (within(what, 30, 30 + TUNES - 1)) {
-            return tunes[what - 30].lastHeard;
+            return tunes[what - 30].dayHeard();
         }
         switch (what) {
             case 0:
@@ -301,7 +302,7 @@ public final class TowerPipers {
     private Plan planOfToday() {
         if (!planned) {
             plan.castCalls(calls, pipers, piecesOf, townWord.number(TownWord.WAY));
-            plan.chooseTunes(calls, tunes, monthOfToday());
+            plan.chooseTunes(calls, tunes, monthOfToday(), today * CALLS);
             planned = true;
         }
         return plan;
@@ -339,10 +340,6 @@ public final class TowerPipers {
             pipers[p].wages += piperShare(now, c, p);
         }
         fund += fundShare(c);
-        int t = now.tuneOf(c);
-        if (within(t, 0, TUNES - 1)) {
-            tunes[t].lastHeard = today;
-        }
     }
 
     private void fineTheWell() {
@@ -513,7 +510,9 @@ public final class TowerPipers {
     private static final class Tune {
         private int occasions = 0;
         private int months = 0;
-        private int lastHeard = NONE;
+        // Turns are counted on from day to day, one for each call that a day can have, so that
+        // tunes of one day keep their order on all later days.
+        private int lastTurn = NONE;
 
         void learn(int newOccasions, int newMonths) {
             occasions = newOccasions;
@@ -522,6 +521,10 @@ public final class TowerPipers {
 
         boolean fits(int occasion, int month) {
             return hasBit(occasions, occasion) && hasBit(months, month);
+        }
+
+        int dayHeard() {
+            return lastTurn == NONE ? NONE : lastTurn / CALLS;
         }
     }
 
@@ -602,7 +605,7 @@ public final class TowerPipers {
         private final Cast cast = new Cast();
         private final int[] turns = new int[CALLS];
         private final int[] chosenTunes = new int[CALLS];
-        private final int[] lastHeard = new int[TUNES];
+        private final int[] lastTurns = new int[TUNES];
         private int turnCount = 0;
         private int bits = 0;
 
@@ -675,25 +678,30 @@ public final class TowerPipers {
             return true;
         }
 
-        void chooseTunes(Call[] calls, Tune[] tunes, int month) {
+        void chooseTunes(Call[] calls, Tune[] tunes, int month, int firstTurn) {
             for (int t = 0; t < TUNES; t++) {
-                lastHeard[t] = tunes[t].lastHeard;
+                lastTurns[t] = tunes[t].lastTurn;
             }
             for (int turn = 0; turn < turnCount; turn++) {
                 int c = turns[turn];
                 int t = longestUnheard(tunes, calls[c].fact(Call.OCCASION), month);
                 chosenTunes[c] = t;
                 if (t != NONE) {
-                    // Above every day that has been, and in the order of the turns.
-                    lastHeard[t] = LAST_DAY + 1 + turn;
+                    lastTurns[t] = firstTurn + turn;
                 }
+            }
+        }
+
+        void hearTunes(Tune[] tunes) {
+            for (int t = 0; t < TUNES; t++) {
+                tunes[t].lastTurn = lastTurns[t];
             }
         }
 
         private int longestUnheard(Tune[] tunes, int occasion, int month) {
             int best = NONE;
             for (int t = 0; t < TUNES; t++) {
-                if (tunes[t].fits(occasion, month) && (best == NONE || lastHeard[t] < lastHeard[best])) {
+                if (tunes[t].fits(occasion, month) && (best == NONE || lastTurns[t] < lastTurns[best])) {
                     best = t;
                 }
             }

@@ -17,6 +17,7 @@ final class PlainModel {
     private final int[][] calls = new int[6][];
     private final List<int[]> tunes = new ArrayList<>(); // occasions, months, day heard
     private final int[] pieces = {1, 1, 1, 1, 1};
+    private final List<Integer> heard = new ArrayList<>(); // tunes, the one heard longest ago first
     private String tape = "";
     private int[] word = {1, 10, 100, 50};
     private int day = 0;
@@ -212,7 +213,7 @@ final class PlainModel {
             }
         }
         List<Played> all = new ArrayList<>();
-        List<Integer> heardToday = new ArrayList<>();
+        List<Integer> heardByThen = new ArrayList<>(heard);
         for (int c : together) {
             List<Integer> who = new ArrayList<>();
             for (int k = 0; k < parts.size(); k++) {
@@ -220,23 +221,28 @@ final class PlainModel {
                     who.add(row[k]);
                 }
             }
-            int tune = chosen(calls[c][4], heardToday);
-            heardToday.remove((Integer) tune);
-            heardToday.add(tune);
+            int tune = chosen(calls[c][4], heardByThen);
+            hear(tune, heardByThen);
             all.add(new Played(c, who, tune));
         }
         return all;
     }
 
-    private int chosen(int occasion, List<Integer> heardToday) {
+    private static void hear(int tune, List<Integer> heard) {
+        if (tune != NONE) {
+            heard.remove((Integer) tune);
+            heard.add(tune);
+        }
+    }
+
+    private int chosen(int occasion, List<Integer> heardByThen) {
         List<Integer> fitting = new ArrayList<>();
         for (int t = 0; t < tunes.size(); t++) {
             if ((tunes.get(t)[0] >> occasion & 1) == 1 && (tunes.get(t)[1] >> day / 30 % 12 & 1) == 1) {
                 fitting.add(t);
             }
         }
-        fitting.sort(Comparator.<Integer, Integer>comparing(t -> heardToday.indexOf(t))
-            .thenComparing(t -> tunes.get(t)[2]).thenComparing(t -> t));
+        fitting.sort(Comparator.<Integer, Integer>comparing(t -> heardByThen.indexOf(t)).thenComparing(t -> t));
         return fitting.isEmpty() ? NONE : fitting.get(0);
     }
 
@@ -321,6 +327,7 @@ final class PlainModel {
             if (one.tune != NONE) {
                 tunes.get(one.tune)[2] = day;
             }
+            hear(one.tune, heard);
         }
         for (int c = 0; c < 6; c++) {
             for (int[] piper : pipers) {

@@ -28,6 +28,7 @@ public final class PromisesTest {
         promise12Tune();
         promise13Heard();
         promise13HeardOverDays();
+        promise13HeardOnOneDay();
         promise14Share();
         promise14ShareLeftOver();
         promise15Day();
@@ -597,7 +598,7 @@ public final class PromisesTest {
         x.day();
         Due.is("13 heard", 3, x.count(31));
 
-        // Two of one earlier day are alike, whatever their order then was: the lowest.
+        // Two of one earlier day are no like ones: they keep the order in which they were heard.
         TowerPipers y = new TowerPipers();
         y.piper(1, 1);
         y.tune(0b01, 4095);
@@ -608,7 +609,14 @@ public final class PromisesTest {
         Due.is("13 then tune 0", 0, y.heard(1));
         y.day();
         y.call(0, 0, 1, 0, 0, 0, NONE, 0);
-        Due.is("13 like ones", 0, y.heard(0));
+        Due.is("13 heard first on an earlier day", 1, y.heard(0));
+        y.day();
+        for (int d = 2; d < 9; d++) {
+            y.call(0, 0, 1, 0, 0, 0, NONE, 0);
+            Due.is("13 in turns, day " + d, d % 2, y.heard(0));
+            Due.is("13 heard yesterday", d - 1, y.count(31 - d % 2));
+            y.day();
+        }
 
         // The month goes on with the days.
         TowerPipers z = new TowerPipers();
@@ -623,6 +631,53 @@ public final class PromisesTest {
         z.day();
         z.call(1, 0, 1, 0, 0, 0, NONE, 0);
         Due.is("13 day 30", 1, z.heard(0));
+    }
+
+    /** Tunes of one earlier day, where calls' numbers and the order of the calls are not the same. */
+    private static void promise13HeardOnOneDay() {
+        TowerPipers x = new TowerPipers();
+        x.piper(1, 1);
+        for (int t = 0; t < 3; t++) {
+            x.tune(1 | 2 << t, 4095);
+        }
+        // By their orders: tunes 2, 0, 1 and tune 2 once more, which makes it the last.
+        x.call(3, 0, 1, 0, 3, 0, NONE, 0);
+        x.call(2, 1, 1, 0, 2, 0, NONE, 0);
+        x.call(1, 2, 1, 0, 1, 0, NONE, 0);
+        x.call(0, 3, 1, 0, 3, 0, NONE, 0);
+        // Not played, for there is no piece left: its tune is not heard.
+        x.call(3, 0, 1, 0, 1, 0, NONE, 0);
+        Due.is("13 played", 0b1111, x.played());
+        x.day();
+        for (int t = 0; t < 3; t++) {
+            Due.is("13 all of day 0", 0, x.count(30 + t));
+        }
+        for (int c = 0; c < 6; c++) {
+            x.call(0, c, 1, 0, 0, 0, NONE, 0);
+        }
+        for (int c = 0; c < 6; c++) {
+            Due.is("13 in the order of day 0, call " + c, c % 3, x.heard(c));
+        }
+        // A day without calls changes nothing: the order is still that of day 0.
+        for (int c = 0; c < 6; c++) {
+            x.off(c);
+        }
+        x.day();
+        x.call(0, 0, 1, 0, 3, 0, NONE, 0);
+        x.call(1, 1, 1, 0, 0, 0, NONE, 0);
+        x.call(1, 2, 1, 0, 0, 0, NONE, 0);
+        x.call(1, 3, 1, 0, 0, 0, NONE, 0);
+        Due.is("13 alone fits", 2, x.heard(0));
+        Due.is("13 before the one of today", 0, x.heard(1));
+        Due.is("13 before the one of today", 1, x.heard(2));
+        Due.is("13 the first of today", 2, x.heard(3));
+        x.day();
+        // Those of day 2 come behind a tune of no day at all.
+        x.tune(1, 4095);
+        x.call(0, 0, 1, 0, 0, 0, NONE, 0);
+        x.call(0, 1, 1, 0, 0, 0, NONE, 0);
+        Due.is("13 never heard", 3, x.heard(0));
+        Due.is("13 heard longest ago", 0, x.heard(1));
     }
 
     private static void promise14Share() {
