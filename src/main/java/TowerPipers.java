@@ -106,7 +106,7 @@ public final class TowerPipers {
         return true;
     }
 
-    // Eight parameters are the document's own; LANGUAGE.md's seven can't hold for this one.
+    // The document's face has eight parameters here; LANGUAGE.md's seven are for methods of our own.
     public int call(int order, int from, int length, int place, int occasion, int one, int two, int fee) {
         asked[Call.ORDER] = order;
         asked[Call.FROM] = from;
@@ -603,10 +603,8 @@ public final class TowerPipers {
     /** Which calls of the day are played, by whom and with which tunes. */
     private static final class Plan {
         private final Cast cast = new Cast();
-        private final int[] turns = new int[CALLS];
         private final int[] chosenTunes = new int[CALLS];
         private final int[] lastTurns = new int[TUNES];
-        private int turnCount = 0;
         private int bits = 0;
 
         int playedBits() {
@@ -631,25 +629,16 @@ public final class TowerPipers {
 
         void castCalls(Call[] calls, Piper[] pipers, int[] pieces, int quartersOfAStep) {
             cast.clear();
-            turnCount = 0;
             bits = 0;
             for (int order = Call.TOWN; order <= Call.LAST_ORDER; order++) {
                 for (int c = 0; c < CALLS; c++) {
                     if (calls[c].isOfOrder(order) && hasPieces(calls, pieces, c)
                             && cast.admit(calls, c, pipers, quartersOfAStep)) {
-                        takeTurn(c);
+                        bits |= 1 << c;
                     }
                 }
             }
             cast.lowerAll();
-        }
-
-        private void takeTurn(int c) {
-            if (turnCount < CALLS) {
-                turns[turnCount] = c;
-                turnCount++;
-                bits |= 1 << c;
-            }
         }
 
         // What is in use grows only where a call begins, so no other quarter need be looked at.
@@ -682,13 +671,21 @@ public final class TowerPipers {
             for (int t = 0; t < TUNES; t++) {
                 lastTurns[t] = tunes[t].lastTurn;
             }
-            for (int turn = 0; turn < turnCount; turn++) {
-                int c = turns[turn];
-                int t = longestUnheard(tunes, calls[c].fact(Call.OCCASION), month);
-                chosenTunes[c] = t;
-                if (t != NONE) {
-                    lastTurns[t] = firstTurn + turn;
+            int turn = firstTurn;
+            for (int order = Call.TOWN; order <= Call.LAST_ORDER; order++) {
+                for (int c = 0; c < CALLS; c++) {
+                    if (has(c) && calls[c].isOfOrder(order)) {
+                        chosenTunes[c] = longestUnheard(tunes, calls[c].fact(Call.OCCASION), month);
+                        takeTurn(chosenTunes[c], turn);
+                        turn++;
+                    }
                 }
+            }
+        }
+
+        private void takeTurn(int t, int turn) {
+            if (within(t, 0, TUNES - 1)) {
+                lastTurns[t] = turn;
             }
         }
 
@@ -784,8 +781,9 @@ public final class TowerPipers {
             callOf[part] = c;
             bars[part] = 1 << part;
             for (int other = 0; other < part; other++) {
+                int d = callOf[other];
                 bars[other] &= ~(1 << part);
-                if (calls[c].clashesWith(calls[callOf[other]], quartersOfAStep)) {
+                if (within(d, 0, CALLS - 1) && calls[c].clashesWith(calls[d], quartersOfAStep)) {
                     bars[other] |= 1 << part;
                     bars[part] |= 1 << other;
                 }
@@ -799,11 +797,17 @@ public final class TowerPipers {
                 int tied = tiedTo(part, left);
                 int known = piperFor[part];
                 boolean lowered = false;
-                for (int p = 0; p < known && !lowered; p++) {
+                for (int p = 0; p < PIPERS && p < known && !lowered; p++) {
                     lowered = isWorthTrying(p, part, tied) && canGive(part, p, tied, part);
                 }
-                openTo[piperFor[part]] &= ~bars[part];
+                close(piperFor[part], bars[part]);
                 left &= ~(1 << part);
+            }
+        }
+
+        private void close(int p, int parts) {
+            if (within(p, 0, PIPERS - 1)) {
+                openTo[p] &= ~parts;
             }
         }
 

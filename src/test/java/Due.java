@@ -24,6 +24,34 @@ final class Due {
         is(what, 0, got ? 1 : 0);
     }
 
+    static void same(String what, String due, String got) {
+        asked++;
+        if (!due.equals(got)) {
+            wrong++;
+            System.out.println(what + " is\n" + got + "due is\n" + due);
+        }
+    }
+
+    /** The four numbers of the town's word. */
+    static void isWord(String what, TowerPipers x, int w, int f, int p, int g) {
+        is(what + " w", w, x.count(10));
+        is(what + " f", f, x.count(11));
+        is(what + " p", p, x.count(12));
+        is(what + " g", g, x.count(13));
+    }
+
+    /** A sentence of the document with the test that it has of its own. */
+    static void sentence(String words, Runnable test) {
+        int wrongBefore = wrong;
+        yes("the document says '" + words + "':", Document.says(words));
+        int askedBefore = asked;
+        test.run();
+        yes("something was asked:", asked > askedBefore);
+        if (wrong > wrongBefore) {
+            System.out.println("NOT KEPT: " + words);
+        }
+    }
+
     /** Ends the test: with exit code 1 if one answer was wrong or nothing was asked. */
     static void end() {
         System.out.println(asked + " answers asked, " + wrong + " not as due");

@@ -98,7 +98,7 @@ public final class LanguageTest {
             Due.yes(c.getName() + " has at most twenty fields", fields <= 20);
             for (Method m : c.getDeclaredMethods()) {
                 Due.yes(m + " has at most seven parameters",
-                    m.getParameterCount() <= 7 || m.getName().equals("call"));
+                    m.getParameterCount() <= 7 || c == TowerPipers.class && FACE.contains(signature(m)));
             }
         }
     }

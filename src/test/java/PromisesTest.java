@@ -1,4 +1,4 @@
-/** Each promise of the document by its number: ordinary inputs, the edges, and wrong inputs. */
+/** Each promise of the document by its number, as it is used; the boundaries have tests of their own. */
 public final class PromisesTest {
     private static final int NONE = TowerPipers.NONE;
     private static final int[] ODD = {Integer.MIN_VALUE, -2, 6, 99, Integer.MAX_VALUE};
@@ -30,24 +30,16 @@ public final class PromisesTest {
         promise13HeardOverDays();
         promise13HeardOnOneDay();
         promise14Share();
-        promise14ShareLeftOver();
         promise15Day();
         promise15DayFines();
         promise15DayPaysTheOld();
         promise15DayOfAll();
-        promise15DayEnds();
         promise16Lasts();
         promise17Look();
         promise18Wages();
         promise19About();
         promise20Count();
-        refusedCallsChangeNothing();
-        objectsAreApart();
         Due.end();
-    }
-
-    private static int simple(TowerPipers x, int order, int from, int length, int one) {
-        return x.call(order, from, length, 0, 0, one, NONE, 100);
     }
 
     private static void promise01NewObject() {
@@ -97,29 +89,22 @@ public final class PromisesTest {
         Due.is("2 p", 5, y.count(12));
     }
 
-    private static void isWord(String what, TowerPipers x, int w, int f, int p, int g) {
-        Due.is(what + " w", w, x.count(10));
-        Due.is(what + " f", f, x.count(11));
-        Due.is(what + " p", p, x.count(12));
-        Due.is(what + " g", g, x.count(13));
-    }
-
     private static void promise03Word() {
         TowerPipers x = new TowerPipers();
         Due.is("3 one", 0, Due.word(x, "f37"));
-        isWord("3 one", x, 1, 37, 100, 50);
+        Due.isWord("3 one", x, 1, 37, 100, 50);
         Due.is("3 as at first again", 0, Due.word(x, "w3"));
-        isWord("3 as at first again", x, 3, 10, 100, 50);
+        Due.isWord("3 as at first again", x, 3, 10, 100, 50);
         Due.is("3 later counts", 0, Due.word(x, "g1;w2;g3;w4"));
-        isWord("3 later counts", x, 4, 10, 100, 3);
+        Due.isWord("3 later counts", x, 4, 10, 100, 3);
         Due.is("3 highest", 0, Due.word(x, "w20;f100;p9999;g9999"));
-        isWord("3 highest", x, 20, 100, 9999, 9999);
+        Due.isWord("3 highest", x, 20, 100, 9999, 9999);
         Due.is("3 lowest", 0, Due.word(x, "w0;f0;p0;g0"));
-        isWord("3 lowest", x, 0, 0, 0, 0);
+        Due.isWord("3 lowest", x, 0, 0, 0, 0);
         Due.is("3 zeros ahead", 0, Due.word(x, "w0020;f0100;p0009"));
-        isWord("3 zeros ahead", x, 20, 100, 9, 50);
+        Due.isWord("3 zeros ahead", x, 20, 100, 9, 50);
         Due.is("3 forty bytes", 0, Due.word(x, "w1;w2;w3;w4;w5;w6;w7;w8;w9;f12;p1234;g45"));
-        isWord("3 forty bytes", x, 9, 12, 1234, 45);
+        Due.isWord("3 forty bytes", x, 9, 12, 1234, 45);
     }
 
     private static void promise03WordFaults() {
@@ -140,7 +125,7 @@ public final class PromisesTest {
         for (int k = 0; k < texts.length; k++) {
             Due.is("3 fault of '" + texts[k] + "'", faults[k], Due.word(x, texts[k]));
             Due.is("3 tape is empty", 0, x.count(5));
-            isWord("3 stays at '" + texts[k] + "'", x, 2, 3, 4, 5);
+            Due.isWord("3 stays at '" + texts[k] + "'", x, 2, 3, 4, 5);
         }
         Due.is("3 a byte above 127", 100, Due.word(x, "\u00f71"));
         Due.is("3 bytes beside the digits", 201, Due.word(x, "w/"));
@@ -229,7 +214,7 @@ public final class PromisesTest {
         Due.yes("6 from ill", x.old(1));
         Due.is("6 old", 2, x.look(0, 2));
         Due.is("6 old", 2, x.look(1, 2));
-        simple(x, 1, 0, 1, 0);
+        Bands.simple(x, 1, 0, 1, 0);
         Due.is("6 the old play no more", 0, x.played());
     }
 
@@ -271,24 +256,24 @@ public final class PromisesTest {
         Due.is("8 most", 1, x.call(3, 72, 24, 9, 5, 4, 4, 9999));
         Due.is("8 last quarter", 2, x.call(3, 95, 1, 9, 5, 4, 0, 9999));
         for (int c = 3; c < 6; c++) {
-            Due.is("8 next", c, simple(x, 2, 5, 1, 0));
+            Due.is("8 next", c, Bands.simple(x, 2, 5, 1, 0));
         }
-        Due.is("8 six are there", NONE, simple(x, 2, 5, 1, 0));
+        Due.is("8 six are there", NONE, Bands.simple(x, 2, 5, 1, 0));
         x.off(4);
         x.off(1);
-        Due.is("8 lowest free", 1, simple(x, 2, 5, 1, 0));
-        Due.is("8 lowest free", 4, simple(x, 2, 5, 1, 0));
-        Due.is("8 six again", NONE, simple(x, 2, 5, 1, 0));
+        Due.is("8 lowest free", 1, Bands.simple(x, 2, 5, 1, 0));
+        Due.is("8 lowest free", 4, Bands.simple(x, 2, 5, 1, 0));
+        Due.is("8 six again", NONE, Bands.simple(x, 2, 5, 1, 0));
         x.day();
-        Due.is("8 a new day", 0, simple(x, 2, 5, 1, 0));
+        Due.is("8 a new day", 0, Bands.simple(x, 2, 5, 1, 0));
     }
 
     private static void promise09Off() {
         TowerPipers x = new TowerPipers();
         Due.no("9 none yet", x.off(0));
         x.piper(1, 1);
-        simple(x, 1, 0, 4, 0);
-        simple(x, 1, 2, 4, 0);
+        Bands.simple(x, 1, 0, 4, 0);
+        Bands.simple(x, 1, 2, 4, 0);
         Due.is("9 the first is played", 1, x.played());
         for (int c : ODD) {
             Due.no("9 odd", x.off(c));
@@ -308,15 +293,15 @@ public final class PromisesTest {
     private static void promise10PlayedByOrders() {
         TowerPipers x = new TowerPipers();
         x.piper(1, 1);
-        simple(x, 3, 0, 4, 0);
+        Bands.simple(x, 3, 0, 4, 0);
         Due.is("10 alone", 1, x.played());
-        simple(x, 2, 3, 4, 0);
+        Bands.simple(x, 2, 3, 4, 0);
         Due.is("10 lower order", 2, x.played());
-        simple(x, 2, 0, 4, 0);
+        Bands.simple(x, 2, 0, 4, 0);
         Due.is("10 like order, greater number", 2, x.played());
-        simple(x, 0, 6, 1, 0);
+        Bands.simple(x, 0, 6, 1, 0);
         Due.is("10 the town's own frees others", 0b1100, x.played());
-        simple(x, 3, 90, 6, 0);
+        Bands.simple(x, 3, 90, 6, 0);
         Due.is("10 one more", 0b11100, x.played());
         x.ill(0, true);
         Due.is("10 ill", 0, x.played());
@@ -381,15 +366,15 @@ public final class PromisesTest {
             y.piper(1, 1);
         }
         y.pieces(0, 2);
-        simple(y, 0, 0, 4, 0);
-        simple(y, 0, 6, 4, 0);
-        simple(y, 1, 0, 10, 0);
+        Bands.simple(y, 0, 0, 4, 0);
+        Bands.simple(y, 0, 6, 4, 0);
+        Bands.simple(y, 1, 0, 10, 0);
         Due.is("10 never more than two at once", 7, y.played());
-        simple(y, 2, 3, 4, 0);
+        Bands.simple(y, 2, 3, 4, 0);
         Due.is("10 three within", 7, y.played());
-        simple(y, 2, 4, 2, 0);
+        Bands.simple(y, 2, 4, 2, 0);
         Due.is("10 two between", 23, y.played());
-        simple(y, 3, 2, 2, 1);
+        Bands.simple(y, 3, 2, 2, 1);
         Due.is("10 another instrument, no piper", 23, y.played());
     }
 
@@ -398,9 +383,9 @@ public final class PromisesTest {
         x.piper(1, 1);
         x.piper(1, 3);
         x.pieces(0, 2);
-        simple(x, 0, 0, 4, 0);
-        simple(x, 0, 2, 4, 0);
-        simple(x, 1, 3, 4, 1);
+        Bands.simple(x, 0, 0, 4, 0);
+        Bands.simple(x, 0, 2, 4, 0);
+        Bands.simple(x, 1, 3, 4, 1);
         Due.is("10 piper 1 plays the second, so not the third", 0b011, x.played());
         Due.is("10 who", 1, x.who(1, 0));
         x.off(0);
@@ -411,9 +396,9 @@ public final class PromisesTest {
         TowerPipers y = new TowerPipers();
         y.piper(1, 3);
         y.piper(1, 1);
-        simple(y, 0, 0, 4, 0);
+        Bands.simple(y, 0, 0, 4, 0);
         Due.is("10 the lower one", 0, y.who(0, 0));
-        simple(y, 1, 2, 4, 1);
+        Bands.simple(y, 1, 2, 4, 1);
         Due.is("10 both", 3, y.played());
         Due.is("10 the earlier one gives way", 1, y.who(0, 0));
         Due.is("10 the later one", 0, y.who(1, 0));
@@ -451,8 +436,8 @@ public final class PromisesTest {
         y.pieces(0, 2);
         y.piper(1, 1);
         y.piper(1, 1);
-        simple(y, 2, 0, 2, 0);
-        simple(y, 1, 0, 2, 0);
+        Bands.simple(y, 2, 0, 2, 0);
+        Bands.simple(y, 1, 0, 2, 0);
         Due.is("11 lower order", 0, y.who(1, 0));
         Due.is("11 higher order", 1, y.who(0, 0));
 
@@ -714,35 +699,6 @@ public final class PromisesTest {
         Due.is("14 no fee", 0, x.share(0, 0));
     }
 
-    private static void isParted(int fee, int rankOfFirst, int rankOfSecond, int first, int second) {
-        TowerPipers x = new TowerPipers();
-        Due.word(x, "f0");
-        x.piper(rankOfFirst, 1);
-        x.piper(rankOfSecond, 2);
-        x.call(1, 0, 1, 0, 0, 0, 1, fee);
-        x.call(1, 5, 1, 0, 0, 1, 0, fee);
-        String what = "14 " + fee + " by " + rankOfFirst + " and " + rankOfSecond;
-        Due.is(what + ", first", first, x.share(0, 0));
-        Due.is(what + ", second", second, x.share(0, 1));
-        Due.is(what + ", parts changed, first", first, x.share(1, 0));
-        Due.is(what + ", parts changed, second", second, x.share(1, 1));
-    }
-
-    private static void promise14ShareLeftOver() {
-        isParted(100, 3, 2, 60, 40);
-        isParted(101, 1, 1, 51, 50);
-        isParted(100, 1, 2, 33, 67);
-        isParted(101, 1, 2, 34, 67);
-        isParted(100, 2, 1, 67, 33);
-        isParted(101, 2, 1, 67, 34);
-        isParted(1, 9, 9, 1, 0);
-        isParted(1, 1, 9, 0, 1);
-        isParted(5, 1, 9, 1, 4);
-        isParted(5, 9, 1, 5, 0);
-        isParted(9999, 9, 8, 5294, 4705);
-        isParted(0, 4, 7, 0, 0);
-    }
-
     private static void promise15Day() {
         TowerPipers x = new TowerPipers();
         x.piper(3, 1);
@@ -780,10 +736,10 @@ public final class PromisesTest {
         x.piper(1, 2);
         x.ill(1, true);
         x.old(2);
-        simple(x, 0, 0, 4, 0);
-        simple(x, 0, 2, 4, 0);
-        simple(x, 0, 2, 4, 0);
-        simple(x, 1, 2, 4, 0);
+        Bands.simple(x, 0, 0, 4, 0);
+        Bands.simple(x, 0, 2, 4, 0);
+        Bands.simple(x, 0, 2, 4, 0);
+        Bands.simple(x, 1, 2, 4, 0);
         x.day();
         Due.is("15 share and two fines", 90 - 100, x.wages(0));
         Due.is("15 the ill pay none", 0, x.wages(1));
@@ -791,17 +747,17 @@ public final class PromisesTest {
         Due.is("15 all that are well pay", -100, x.wages(3));
         Due.is("15 fines come to the fund", 10 + 200, x.wages(NONE));
         Due.word(x, "g9999");
-        simple(x, 0, 0, 4, 4);
+        Bands.simple(x, 0, 0, 4, 4);
         x.off(0);
-        simple(x, 1, 0, 4, 4);
+        Bands.simple(x, 1, 0, 4, 4);
         x.day();
         Due.is("15 no fine for other orders, nor for what is off", -100, x.wages(3));
-        simple(x, 0, 0, 4, 4);
+        Bands.simple(x, 0, 0, 4, 4);
         x.day();
         Due.is("15 another fine", -10099, x.wages(3));
         Due.is("15 fund", 210 + 2 * 9999, x.wages(NONE));
         Due.word(x, "g0");
-        simple(x, 0, 0, 4, 4);
+        Bands.simple(x, 0, 0, 4, 4);
         x.day();
         Due.is("15 no fine", -10099, x.wages(3));
     }
@@ -858,20 +814,20 @@ public final class PromisesTest {
             x.tune(63, 4095);
         }
         for (int c = 0; c < 6; c++) {
-            simple(x, 0, c, 1, 0);
+            Bands.simple(x, 0, c, 1, 0);
         }
         Due.is("15 all calls", 6, x.count(3));
         Due.is("15 the last tune of the day", 5, x.heard(5));
         Due.is("15 share of the last call", 90, x.share(5, 0));
         Due.yes("15 the last one is off", x.off(5));
-        simple(x, 0, 5, 1, 1);
+        Bands.simple(x, 0, 5, 1, 1);
         Due.is("15 about the last one", 1, x.about(5, 5));
         x.day();
         Due.is("15 five shares and a fine", 5 * 90 - 50, x.wages(0));
         Due.is("15 a fine of the last piper", -50, x.wages(5));
         Due.is("15 five shares and six fines", 50 + 300, x.wages(NONE));
         for (int c = 0; c < 6; c++) {
-            simple(x, 0, c, 1, 0);
+            Bands.simple(x, 0, c, 1, 0);
         }
         Due.is("15 the last tune", 9, x.heard(4));
         Due.is("15 then the first", 0, x.heard(5));
@@ -894,19 +850,6 @@ public final class PromisesTest {
         Due.is("15 the fifth is paid in part", 10 - 50, x.wages(4));
         Due.is("15 the sixth has none", -50, x.wages(5));
         Due.is("15 fund", 0, x.wages(NONE));
-    }
-
-    // More than 512 calls, whose answers are free by the document; here they go on being right.
-    private static void promise15DayEnds() {
-        TowerPipers x = new TowerPipers();
-        for (int d = 1; d <= 9999; d++) {
-            Due.is("15 day", d, x.day());
-        }
-        simple(x, 0, 0, 1, 0);
-        Due.is("15 above 9999", NONE, x.day());
-        Due.is("15 stays", 9999, x.count(0));
-        Due.is("15 stays", 1, x.count(3));
-        Due.is("15 month", 9999 / 30 % 12, x.count(1));
     }
 
     private static void promise16Lasts() {
@@ -961,9 +904,9 @@ public final class PromisesTest {
         Due.is("17 no part", 0, x.look(0, 3));
         Due.is("17 rank", 2, x.look(1, 0));
         Due.is("17 instruments", 2, x.look(1, 1));
-        simple(x, 1, 0, 1, 0);
+        Bands.simple(x, 1, 0, 1, 0);
         x.call(1, 1, 1, 0, 0, 2, 1, 0);
-        simple(x, 2, 1, 1, 0);
+        Bands.simple(x, 2, 1, 1, 0);
         Due.is("17 parts", 2, x.look(0, 3));
         Due.is("17 parts", 1, x.look(1, 3));
         x.ill(1, true);
@@ -989,7 +932,7 @@ public final class PromisesTest {
     private static void promise18Wages() {
         TowerPipers x = new TowerPipers();
         x.piper(1, 1);
-        simple(x, 1, 0, 1, 0);
+        Bands.simple(x, 1, 0, 1, 0);
         Due.is("18 not yet", 0, x.wages(0));
         Due.is("18 not yet", 0, x.wages(NONE));
         x.day();
@@ -999,9 +942,9 @@ public final class PromisesTest {
         for (int p : ODD) {
             Due.is("18 no such piper", 0, x.wages(p));
         }
-        simple(x, 0, 0, 1, 3);
+        Bands.simple(x, 0, 0, 1, 3);
         x.day();
-        simple(x, 0, 0, 1, 3);
+        Bands.simple(x, 0, 0, 1, 3);
         x.day();
         Due.is("18 below 0", -10, x.wages(0));
         x.old(0);
@@ -1042,7 +985,7 @@ public final class PromisesTest {
         x.tune(63, 4095);
         x.tune(63, 4095);
         for (int c = 0; c < 4; c++) {
-            simple(x, 1, c * 5, 1, 0);
+            Bands.simple(x, 1, c * 5, 1, 0);
         }
         x.off(1);
         x.off(2);
@@ -1066,78 +1009,5 @@ public final class PromisesTest {
         for (int what : new int[] {-1, 6, 9, 14, 19, 25, 29, 39, 40, Integer.MIN_VALUE, Integer.MAX_VALUE}) {
             Due.is("20 no such thing " + what, NONE, x.count(what));
         }
-    }
-
-    private static String picture(TowerPipers x) {
-        StringBuilder all = new StringBuilder();
-        for (int what = -1; what <= 41; what++) {
-            all.append(x.count(what)).append(' ');
-        }
-        for (int n = -1; n <= 6; n++) {
-            all.append(x.wages(n)).append(' ').append(x.heard(n)).append(' ');
-            for (int what = -1; what <= 8; what++) {
-                all.append(x.look(n, what)).append(' ').append(x.about(n, what)).append(' ');
-                all.append(x.who(n, what)).append(' ').append(x.share(n, what)).append(' ');
-            }
-        }
-        return all.append(x.played()).append(' ').append(x.lasts()).toString();
-    }
-
-    private static void refusedCallsChangeNothing() {
-        TowerPipers x = new TowerPipers();
-        for (int p = 0; p < 6; p++) {
-            x.piper(p + 1, 31 - p);
-        }
-        for (int t = 0; t < 10; t++) {
-            x.tune(t, 4095 - t);
-        }
-        x.call(1, 0, 1, 0, 0, 0, 1, 77);
-        x.day();
-        for (int c = 0; c < 6; c++) {
-            x.call(c % 4, c, 3, c, c, c % 5, c == 2 ? NONE : 2, 100 + c);
-        }
-        x.ill(1, true);
-        x.old(2);
-        x.feed(0, 0, 0, 0, 0);
-        x.feed(0, 0, 0, 0, 0);
-        String before = picture(x);
-        x.feed(-1, -1, -1, -1, -1);
-        x.word(41);
-        x.word(-1);
-        x.piper(1, 1);
-        x.ill(1, true);
-        x.ill(2, true);
-        x.ill(9, true);
-        x.old(2);
-        x.old(-1);
-        x.pieces(5, 1);
-        x.pieces(1, 4);
-        x.call(0, 90, 1, 0, 0, 0, NONE, 1);
-        x.off(6);
-        x.off(-1);
-        x.tune(1, 1);
-        x.look(8, 8);
-        x.about(8, 8);
-        x.share(8, 8);
-        Due.yes("refused calls change nothing", before.equals(picture(x)));
-        x.off(3);
-        x.call(0, 90, 7, 0, 0, 0, NONE, 1);
-        Due.is("a refused call takes no number", NONE, x.about(3, 0));
-    }
-
-    private static void objectsAreApart() {
-        TowerPipers x = new TowerPipers();
-        TowerPipers y = new TowerPipers();
-        String before = picture(y);
-        Due.word(x, "w9;f9;p9;g9");
-        x.piper(9, 9);
-        x.tune(1, 1);
-        x.pieces(0, 3);
-        simple(x, 0, 0, 1, 0);
-        simple(x, 0, 0, 1, 4);
-        x.feed(1, 1, 1, 1, 1);
-        x.day();
-        Due.yes("another object is not touched", before.equals(picture(y)));
-        Due.yes("a new object is new", before.equals(picture(new TowerPipers())));
     }
 }
