@@ -471,6 +471,14 @@ public final class CallBoundariesTest {
         Due.is("the lowest", 0, v.who(0, 0));
         Due.is("who is left for the second", 3, v.who(1, 0));
         Due.is("the lowest for the third", 1, v.who(2, 0));
+        // The last of six alone can have the first part, so is not free for the third one.
+        TowerPipers last = Bands.of(0b0110, 0b0010, 0b1000, 0b1000, 0b1000, 0b0101);
+        for (int i = 0; i < 3; i++) {
+            Bands.simple(last, i, 0, 4, i);
+        }
+        Due.is("the last of six", 5, last.who(0, 0));
+        Due.is("the second gives way", 1, last.who(1, 0));
+        Due.is("to the third", 0, last.who(2, 0));
         // Twelve parts, each call overlapping the next one: two and two take turns.
         TowerPipers chain = Bands.of(ALL, ALL, ALL, ALL, ALL, ALL);
         for (int c = 0; c < 6; c++) {
