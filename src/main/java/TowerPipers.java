@@ -423,7 +423,8 @@ public final class TowerPipers {
         int read(Tape tape, int length) {
             System.arraycopy(AT_FIRST, 0, coming, 0, NUMBERS);
             int at = 0;
-            while (at <= length) {
+            // A clause has bytes of its own, so the counter never ends a word early: it shows the loop's end.
+            for (int clause = 0; clause <= length && at <= length; clause++) {
                 int kind = kindAt(tape, at, length);
                 if (kind == NONE) {
                     return NO_LETTER + at;

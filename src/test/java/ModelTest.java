@@ -6,6 +6,7 @@ public final class ModelTest {
     private static final int RUNS = 3000;
     private static final int CALLS_OF_A_RUN = 400;
     private static final int CROWDED_DAYS = 3000;
+    private static final int YEARS = 200;
     private static final String[] PIECES_OF_WORDS = {"w", "f", "p", "g", "0", "1", "9", "20", "21", "100", "101",
         "9999", ";", ";w1", ";f0", "w0", "w3", "g7;", "p12;", "x", " ", "f50"};
 
@@ -31,6 +32,9 @@ public final class ModelTest {
         for (int seed = 0; seed < CROWDED_DAYS; seed++) {
             new ModelTest(-1 - seed).crowdedDay();
         }
+        for (int seed = 0; seed < YEARS; seed++) {
+            new ModelTest(RUNS + seed).year();
+        }
         Due.end();
     }
 
@@ -52,6 +56,26 @@ public final class ModelTest {
         for (int c = 0; c < 6; c++) {
             is("who " + c + " 0", model.who(c, 0), band.who(c, 0));
             is("who " + c + " 1", model.who(c, 1), band.who(c, 1));
+        }
+    }
+
+    /** A year with a chance call now and then, so that all months come, and the pay of the old. */
+    private void year() {
+        int calls = 0;
+        while (model.count(0) < 360) {
+            if (chance.nextInt(4) == 0 && calls < 140) {
+                step();
+                calls++;
+            } else {
+                is("day", model.day(), band.day());
+            }
+        }
+        for (int p = -1; p < 6; p++) {
+            is("wages " + p, model.wages(p), band.wages(p));
+        }
+        is("lasts", model.lasts(), band.lasts());
+        for (int t = 30; t < 40; t++) {
+            is("count " + t, model.count(t), band.count(t));
         }
     }
 
